@@ -455,11 +455,11 @@ public final class CubeSnakes {
         gathered.begin(steps);
         seeker.begin(ring, steps);
         for (int t = 0; t <= MOST_TRIES; t++) {
-            if (isMetWith(steps)) {
-                namer.writeLeast(seeker.row(), ring, form);
-                if (!gathered.take(form)) {
+            if (isMetWith(steps) && isLeastForm(seeker.row(), ring)) {
+                if (gathered.isFull()) {
                     return false;
                 }
+                gathered.append(seeker.row());
             }
             if (!seeker.goOn()) {
                 return true;
@@ -467,6 +467,15 @@ public final class CubeSnakes {
             triesMade = Math.min(t + 1, MOST_TRIES);
         }
         return false;
+    }
+
+    /**
+     * Whether a met row is the least form of its class. Seeking goes through the rows that name their
+     * ways in order, the lesser first: so of each class it meets this one first, and in their order.
+     */
+    private boolean isLeastForm(Rope row, boolean ring) {
+        namer.writeLeast(row, ring, form);
+        return form.isSame(row);
     }
 
     /** Sets of corners: bit c stands for corner c. */
@@ -482,14 +491,14 @@ public final class CubeSnakes {
         }
 
         static boolean holds(long set, int corner) {
-            return (set >>> corner & 1L) != 0L;
+            return ((set >>> corner) & 1L) != 0L;
         }
 
         /** Where the corners of a set come to by one step of a way. */
         static long stepped(long set, int way) {
             long low = without(way);
             int shift = 1 << way;
-            return (set & low) << shift | set >>> shift & low;
+            return ((set & low) << shift) | ((set >>> shift) & low);
         }
 
         /** A set, and all that is one step from it. */
@@ -506,7 +515,7 @@ public final class CubeSnakes {
             long rising = without(greater) & ~without(way);
             int shift = (1 << greater) - (1 << way);
             long falling = rising << shift;
-            return (set & rising) << shift | (set & falling) >>> shift | set & ~(rising | falling);
+            return ((set & rising) << shift) | ((set & falling) >>> shift) | (set & ~(rising | falling));
         }
     }
 
@@ -550,11 +559,11 @@ public final class CubeSnakes {
         }
 
         long allCorners() {
-            return -1L >>> MOST_CORNERS - (1 << ways);
+            return -1L >>> (MOST_CORNERS - (1 << ways));
         }
 
         boolean hasCorner(int c) {
-            return c >= 0 && c < 1 << ways;
+            return c >= 0 && c < (1 << ways);
         }
 
         boolean isFree() {
@@ -677,7 +686,7 @@ public final class CubeSnakes {
                     return;
                 }
                 last = i + 1;
-                passed[last] = passed[i] ^ 1 << way;
+                passed[last] = passed[i] ^ (1 << way);
             }
         }
 
@@ -730,7 +739,7 @@ public final class CubeSnakes {
                 return 0;
             }
             for (int way = 0; way < space.ways(); way++) {
-                passed[next] = cornerAt(last) ^ 1 << way;
+                passed[next] = cornerAt(last) ^ (1 << way);
                 if (causeAt(next) == NONE) {
                     open++;
                 }
@@ -785,9 +794,9 @@ public final class CubeSnakes {
             int turns = 0;
             int orders = ordersOf(ways);
             for (int order = 0; order < orders; order++) {
-                long ordered = ordered(set, ways, order);
+                long moved = ordered(set, ways, order);
                 for (int x = 0; x < corners && x < turned.length; x++) {
-                    if (turned[x] == ordered) {
+                    if (turned[x] == moved) {
                         turns++;
                     }
                 }
@@ -962,10 +971,10 @@ public final class CubeSnakes {
 
         private boolean goesOnBy(int way) {
             int n = row.length();
-            if (n >= deepest || n >= MOST_STEPS) {
+            if (n >= MOST_STEPS) {
                 return false;
             }
-            int to = passed[n] ^ 1 << way;
+            int to = passed[n] ^ (1 << way);
             if (ring && to == 0) {
                 closed = closesWith(n + 1);
                 if (closed) {
@@ -1030,17 +1039,13 @@ public final class CubeSnakes {
             long near = space.near(passed[i], steps);
             // A ring has to come home, so that near the begin it may come near its first corners.
             long home = ring ? space.near(0, space.theSpread() - 1 - i) : 0L;
-            return near & ~home | 1L << passed[i];
+            return (near & ~home) | (1L << passed[i]);
         }
     }
 
     /** Least forms with as many steps each, in their order. */
     private static final class FormList {
-        private static final int WORDS = 4, STEPS_IN_WORD = 16, BITS = 4;
-
-        /** Four words a form, the first step highest: so forms are in order as their words are. */
-        private final long[] words = new long[MOST_CLASSES * WORDS];
-        private final long[] sought = new long[WORDS];
+        private final byte[] ways = new byte[MOST_CLASSES * MOST_STEPS];
         private int size = 0;
         private int steps = 0;
 
@@ -1053,70 +1058,29 @@ public final class CubeSnakes {
             return size;
         }
 
-        /** Takes a form in, if it is not there yet; false if there is no room for it. */
-        boolean take(Rope form) {
-            pack(form);
-            int place = placeOfSought();
-            if (place < size && order(place) == 0) {
-                return true;
+        boolean isFull() {
+            return size >= MOST_CLASSES;
+        }
+
+        void append(Rope form) {
+            if (isFull()) {
+                return;
             }
-            if (size >= MOST_CLASSES) {
-                return false;
+            for (int s = 0; s < steps && s < MOST_STEPS; s++) {
+                ways[size * MOST_STEPS + s] = (byte) form.wayAt(s);
             }
-            int from = place * WORDS;
-            System.arraycopy(words, from, words, from + WORDS, (size - place) * WORDS);
-            System.arraycopy(sought, 0, words, from, WORDS);
             size++;
-            return true;
         }
 
         void copyTo(int i, Rope rope) {
             rope.begin();
             for (int s = 0; s < steps; s++) {
-                int shift = BITS * (STEPS_IN_WORD - 1 - s % STEPS_IN_WORD);
-                rope.add((int) (wordAt(i * WORDS + s / STEPS_IN_WORD) >>> shift & 15L));
+                rope.add(wayAt(i * MOST_STEPS + s));
             }
         }
 
-        private long wordAt(int i) {
-            return i >= 0 && i < words.length ? words[i] : 0L;
-        }
-
-        private void pack(Rope form) {
-            for (int w = 0; w < WORDS; w++) {
-                long word = 0L;
-                for (int s = 0; s < STEPS_IN_WORD; s++) {
-                    word = word << BITS | form.wayAt(w * STEPS_IN_WORD + s);
-                }
-                sought[w] = word;
-            }
-        }
-
-        /** How many forms come before the sought one. */
-        private int placeOfSought() {
-            int low = 0;
-            int high = size;
-            // Each look halves what is left of some 200 forms.
-            for (int looks = 0; looks < MOST_CLASSES && low < high; looks++) {
-                int middle = (low + high) / 2;
-                if (order(middle) < 0) {
-                    low = middle + 1;
-                } else {
-                    high = middle;
-                }
-            }
-            return low;
-        }
-
-        /** Below 0 if a form comes before the sought one, 0 if it is this, above 0 if behind. */
-        private int order(int place) {
-            for (int w = 0; w < WORDS; w++) {
-                int order = Long.compare(wordAt(place * WORDS + w), sought[w]);
-                if (order != 0) {
-                    return order;
-                }
-            }
-            return 0;
+        private int wayAt(int place) {
+            return place >= 0 && place < ways.length ? ways[place] : 0;
         }
     }
 }

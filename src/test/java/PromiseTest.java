@@ -524,6 +524,12 @@ public final class PromiseTest {
         // Nothing is left out now: the first step goes by way 1, 2, too.
         due("longest(2, false, 20000)", x.longest(2, false, 20000), 4);
         rope(x, 2, "1021");
+        x.bar(2, true);
+        x.bar(4, true);
+        // No step leads away from corner 0.
+        due("longest(2, false, 1), shut in", x.longest(2, false, 1), 0);
+        due("tries()", x.tries(), 0);
+        rope(x, 2, "");
         x.cube(1);
         due("longest(3, true, 20000)", x.longest(3, true, 20000), 0);
         rope(x, 3, "");
@@ -562,6 +568,11 @@ public final class PromiseTest {
         due("tries()", x.tries(), 3);
         due("count(false, 5)", x.count(false, 5), 1);
         due("asked()", x.asked(), 0);
+        due("count(false, 0)", x.count(false, 0), 1);
+        due("tries() of none", x.tries(), 0);
+        due("count(false, 64)", x.count(false, 64), 1);
+        due("asked()", x.asked(), 0);
+        due("tries()", x.tries(), 4);
         due("count(true, 4)", x.count(true, 4), 1);
         due("asked()", x.asked(), 1);
         due("count(true, 6)", x.count(true, 6), 1);
@@ -593,6 +604,14 @@ public final class PromiseTest {
         due("asked() behind SPENT", x.asked(), before);
         due("classes(false, 2)", x.classes(false, 2), 1);
         due("asked()", x.asked(), 1);
+        x.spread(2);
+        for (int corner : new int[] {10, 24, 27, 40, 43}) {
+            x.bar(corner, true);
+        }
+        // Just as many tries as may be.
+        due("count(false, 7)", x.count(false, 7), 1);
+        due("tries()", x.tries(), 20000);
+        due("asked()", x.asked(), 14176);
     }
 
     private static void classesOfRopes() {
@@ -624,6 +643,10 @@ public final class PromiseTest {
                 due("least(2, " + j + ")", x.least(2, j), x.at(2, j));
             }
         }
+        due("classes(true, 64)", x.classes(true, 64), 1);
+        due("asked()", x.asked(), 0);
+        due("classOf(0, 2)", x.classOf(0, 2), -9);
+        due("classes(true, 8)", x.classes(true, 8), 1);
         due("classes(false, 65)", x.classes(false, 65), -1);
         due("classes(false, -1)", x.classes(false, -1), -1);
         x.bar(15, true);
@@ -650,8 +673,12 @@ public final class PromiseTest {
         due("asked() behind too many", x.asked(), five);
         due("the last class behind too many", x.classOf((int) five - 1, 3), 1);
         rope(x, 3, "01234");
+        due("classes(true, 11)", x.classes(true, 11), -6);
+        due("tries() of too many", x.tries(), 20000);
+        due("asked() behind too many tries", x.asked(), five);
         due("classes(false, 0)", x.classes(false, 0), 1);
         due("asked()", x.asked(), 1);
+        due("tries() of none", x.tries(), 0);
         due("classOf(0, 3)", x.classOf(0, 3), 1);
         rope(x, 3, "");
         due("classes(true, 0)", x.classes(true, 0), 1);
