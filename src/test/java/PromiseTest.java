@@ -285,6 +285,14 @@ public final class PromiseTest {
         x.bar(0, true);
         due("kind(0) with 0 barred", x.kind(0), 0);
         due("kind(3) with 0 barred", x.kind(3), 0);
+        // Closed rows with two corners too near: 0 and 3, then 2 and 5, then many.
+        x = with(3, 2, "010212", "102120", "01020102");
+        due("kind(0), 0 near 3", x.kind(0), 0);
+        due("kind(1), 2 near 5", x.kind(1), 0);
+        due("kind(2), many near", x.kind(2), 0);
+        x.spread(1);
+        due("kind(0), spread 1", x.kind(0), 3);
+        due("kind(1), spread 1", x.kind(1), 3);
         x = with(3, 1, "00", "0101", "01020102", "0102010", "012012");
         due("kind(0), spread 1", x.kind(0), 0);
         due("kind(1), spread 1", x.kind(1), 3);
