@@ -297,10 +297,9 @@ public final class CubeSnakes {
             if (seeker.isMet() && seeker.row().length() > ropes[p].length()) {
                 ropes[p].copy(seeker.row());
             }
-            if (!seeker.goOn()) {
+            if (!goesOn(t, n)) {
                 return ropes[p].length();
             }
-            triesMade = Math.min(t + 1, n);
         }
         return SPENT;
     }
@@ -428,6 +427,16 @@ public final class CubeSnakes {
         return there;
     }
 
+    /** Goes on to the next try behind so many; false if there is none. */
+    private boolean goesOn(int made, int most) {
+        if (!seeker.goOn()) {
+            return false;
+        }
+        // The one behind the most is not made: it only tells that there would be more.
+        triesMade = Math.min(made + 1, most);
+        return true;
+    }
+
     private boolean isMetWith(int steps) {
         return seeker.isMet() && seeker.row().length() == steps;
     }
@@ -441,10 +450,9 @@ public final class CubeSnakes {
             if (isMetWith(steps)) {
                 met++;
             }
-            if (!seeker.goOn()) {
+            if (!goesOn(t, MOST_TRIES)) {
                 return met;
             }
-            triesMade = Math.min(t + 1, MOST_TRIES);
         }
         return SPENT;
     }
@@ -461,10 +469,9 @@ public final class CubeSnakes {
                 }
                 gathered.append(seeker.row());
             }
-            if (!seeker.goOn()) {
+            if (!goesOn(t, MOST_TRIES)) {
                 return true;
             }
-            triesMade = Math.min(t + 1, MOST_TRIES);
         }
         return false;
     }
