@@ -6,61 +6,11 @@ import java.util.Set;
 import java.util.TreeSet;
 
 /** For each promise ordinary calls, the edges that the document names, and wrong ones, with what is due by hand. */
-public final class PromiseTest {
-    private static int wrong = 0;
-    private static String promise = "";
-
-    private static void due(String call, long got, long want) {
-        if (got != want) {
-            wrong++;
-            System.out.println(promise + ": " + call + " answered " + got + ", due is " + want);
-        }
-    }
-
-    /** An object with ropes 0, 1, .. that have the ways of these texts; "-" for a missing one. */
-    private static CubeSnakes with(int d, int k, String... ropes) {
-        CubeSnakes x = new CubeSnakes();
-        x.cube(d);
-        x.spread(k);
-        for (int p = 0; p < ropes.length; p++) {
-            set(x, p, ropes[p]);
-        }
-        return x;
-    }
-
-    private static void set(CubeSnakes x, int p, String ways) {
-        if (ways.equals("-")) {
-            return;
-        }
-        x.word(p);
-        for (int i = 0; i < ways.length(); i++) {
-            x.step(p, ways.charAt(i) - '0');
-        }
-    }
-
-    private static void rope(CubeSnakes x, int p, String ways) {
-        due("length of rope " + p, x.at(p, -1), ways.length());
-        for (int i = 0; i < ways.length(); i++) {
-            due("at(" + p + ", " + i + ")", x.at(p, i), ways.charAt(i) - '0');
-        }
-    }
-
+public final class PromiseTest extends Checks {
     /** That a call answered FINDING, and told this one. */
     private static void finds(String call, CubeSnakes x, int got, int which) {
         due(call, got, -3);
         due("finding() after " + call, x.finding(), which);
-    }
-
-    private static long digestOf(int d, int k, long barred, String... ropes) {
-        long h = ((17L * 31 + d) * 31 + k) * 31 + barred;
-        for (int p = 0; p < 12; p++) {
-            String ways = p < ropes.length ? ropes[p] : "-";
-            h = h * 31 + (ways.equals("-") ? -1 : ways.length());
-            for (int i = 0; i < ways.length() && !ways.equals("-"); i++) {
-                h = h * 31 + (ways.charAt(i) - '0');
-            }
-        }
-        return h;
     }
 
     public static void main(String[] args) {
@@ -77,14 +27,11 @@ public final class PromiseTest {
         orderOfRefusals();
         openRows();
         nothingThrows();
-        System.out.println(wrong == 0 ? "all answers are as due" : wrong + " answers are not as due");
-        if (wrong != 0) {
-            System.exit(1);
-        }
+        end();
     }
 
     private static void face() {
-        promise = "the public face";
+        about("the public face");
         due("BAD", CubeSnakes.BAD, -1);
         due("FULL", CubeSnakes.FULL, -2);
         due("FINDING", CubeSnakes.FINDING, -3);
@@ -111,7 +58,7 @@ public final class PromiseTest {
     }
 
     private static void cubeAndWords() {
-        promise = "1 a new object";
+        about("1 a new object");
         CubeSnakes x = new CubeSnakes();
         due("many(0)", x.many(0), 3);
         due("many(1)", x.many(1), 2);
@@ -126,7 +73,7 @@ public final class PromiseTest {
             due("tear(" + p + ")", x.tear(p), -3);
         }
 
-        promise = "2 cube";
+        about("2 cube");
         due("cube(1)", x.cube(1), 1);
         due("bar(2, true)", x.bar(2, true), -1);
         due("cube(6)", x.cube(6), 6);
@@ -140,7 +87,7 @@ public final class PromiseTest {
         due("barred() behind cube()", x.barred(), 0);
         due("many(1)", x.many(1), 2);
 
-        promise = "3 spread";
+        about("3 spread");
         due("spread(3)", x.spread(3), 1);
         due("many(1)", x.many(1), 3);
         due("spread(1)", x.spread(1), 1);
@@ -150,7 +97,7 @@ public final class PromiseTest {
         due("spread(2)", x.spread(2), 1);
         due("many(1)", x.many(1), 2);
 
-        promise = "4 bar, 5 barred";
+        about("4 bar, 5 barred");
         due("bar(63, true)", x.bar(63, true), 0);
         due("bar(63, true)", x.bar(63, true), 1);
         due("bar(0, false)", x.bar(0, false), 0);
@@ -168,7 +115,7 @@ public final class PromiseTest {
         due("bar(7, true)", x.bar(7, true), 0);
         due("barred()", x.barred(), 128);
 
-        promise = "6 word";
+        about("6 word");
         due("word(-1)", x.word(-1), -1);
         due("word(12)", x.word(12), -1);
         due("word(11)", x.word(11), 0);
@@ -178,7 +125,7 @@ public final class PromiseTest {
         rope(x, 0, "");
         due("many(2)", x.many(2), 2);
 
-        promise = "7 step";
+        about("7 step");
         due("step(0, 5)", x.step(0, 5), 1);
         due("step(0, 0)", x.step(0, 0), 2);
         rope(x, 0, "50");
@@ -197,7 +144,7 @@ public final class PromiseTest {
     }
 
     private static void ropesChanged() {
-        promise = "8 at";
+        about("8 at");
         CubeSnakes x = with(3, 2, "0145");
         rope(x, 0, "0145");
         finds("at(0, 4)", x, x.at(0, 4), 2);
@@ -208,7 +155,7 @@ public final class PromiseTest {
         due("at(-1, 0)", x.at(-1, 0), -1);
         due("findings(2)", x.findings(2), 2);
 
-        promise = "9 cut";
+        about("9 cut");
         due("cut(0, 3)", x.cut(0, 3), 3);
         rope(x, 0, "014");
         finds("cut(0, 4)", x, x.cut(0, 4), 2);
@@ -224,7 +171,7 @@ public final class PromiseTest {
         due("step behind cut", x.step(0, 2), 1);
         rope(x, 0, "2");
 
-        promise = "10 tear";
+        about("10 tear");
         due("tear(0)", x.tear(0), 1);
         due("many(2)", x.many(2), 0);
         finds("tear(0)", x, x.tear(0), 1);
@@ -233,7 +180,7 @@ public final class PromiseTest {
         due("word(0)", x.word(0), 0);
         rope(x, 0, "");
 
-        promise = "11 join";
+        about("11 join");
         x = with(3, 2, "0123", "45");
         due("join(0, 1, 2, 1)", x.join(0, 1, 2, 1), 4);
         rope(x, 1, "4512");
@@ -267,7 +214,7 @@ public final class PromiseTest {
     }
 
     private static void whatRopesAre() {
-        promise = "12 kind";
+        about("12 kind");
         CubeSnakes x = with(3, 2, "", "012", "0120", "012012", "01201", "3", "0101", "00");
         int[] kinds = {1, 1, 2, 3, 0, 0, 3, 0};
         for (int p = 0; p < kinds.length; p++) {
@@ -308,7 +255,7 @@ public final class PromiseTest {
         due("kind(0), 1 way", x.kind(0), 2);
         due("kind(1), 1 way", x.kind(1), 1);
 
-        promise = "13 corner";
+        about("13 corner");
         x = with(3, 2, "01203");
         int[] corners = {0, 1, 3, 7, 6};
         for (int i = 0; i < corners.length; i++) {
@@ -325,7 +272,7 @@ public final class PromiseTest {
         x.bar(14, true);
         due("corner(0, 5) barred", x.corner(0, 5), 14);
 
-        promise = "14 fault";
+        about("14 fault");
         x = with(3, 2, "01201", "013", "0120", "", "00", "012012");
         due("fault(0, 0)", x.fault(0, 0), 5);
         due("fault(0, 1)", x.fault(0, 1), 0);
@@ -358,7 +305,7 @@ public final class PromiseTest {
         due("fault(0, 0) of 01232", x.fault(0, 0), 5);
         due("fault(0, 1) of 01232", x.fault(0, 1), 2);
 
-        promise = "15 open";
+        about("15 open");
         x = with(3, 2, "", "0", "01", "012", "0120", "012012", "3");
         int[] open = {3, 2, 1, 1, 0};
         for (int p = 0; p < open.length; p++) {
@@ -375,7 +322,7 @@ public final class PromiseTest {
     }
 
     private static void placesInRings() {
-        promise = "16 read";
+        about("16 read");
         CubeSnakes x = with(3, 2, "012012", "0101", "012", "");
         int[] places = {0, 1, -13, 2, 5, -13, 4, 3};
         for (int c = 0; c < 8; c++) {
@@ -394,7 +341,7 @@ public final class PromiseTest {
         due("read(0, 8)", x.read(0, 8), -11);
         due("read(0, 10)", x.read(0, 10), -10);
 
-        promise = "17 far";
+        about("17 far");
         x = with(3, 2, "", "012", "0120", "0101", "0102", "012012");
         due("far(0)", x.far(0), 4);
         due("far(1)", x.far(1), 0);
@@ -416,7 +363,7 @@ public final class PromiseTest {
     }
 
     private static void formsOfRopes() {
-        promise = "18 alike";
+        about("18 alike");
         CubeSnakes x = with(4, 2, "0123", "3210", "2031", "0120", "012012", "120120", "2312", "0101", "00", "10302", "02310");
         due("alike(0, 1)", x.alike(0, 1), 1);
         due("alike(0, 2)", x.alike(0, 2), 1);
@@ -445,7 +392,7 @@ public final class PromiseTest {
         due("alike(3, 4)", x.alike(3, 4), 1);
         due("alike(0, 6)", x.alike(0, 6), 1);
 
-        promise = "19 least";
+        about("19 least");
         x = with(6, 2, "5343", "345", "534", "543215", "", "2121", "00", "30130131");
         String[] least = {"", "012", "012", "012340", "", "0101"};
         for (int p = 1; p < least.length; p++) {
@@ -480,7 +427,7 @@ public final class PromiseTest {
             due("least(2, " + i + ") of 01203", x.least(2, i), forward.charAt(i) - '0');
         }
 
-        promise = "20 turns";
+        about("20 turns");
         x = with(3, 2, "012012", "0101", "012", "", "01230123");
         due("turns(0)", x.turns(0), 12);
         due("turns(1)", x.turns(1), 8);
@@ -501,7 +448,7 @@ public final class PromiseTest {
     }
 
     private static void longestOnes() {
-        promise = "21 longest, 25 tries";
+        about("21 longest, 25 tries");
         CubeSnakes x = with(3, 2);
         due("longest(1, false, 4)", x.longest(1, false, 4), 4);
         due("tries()", x.tries(), 4);
@@ -563,7 +510,7 @@ public final class PromiseTest {
     }
 
     private static void counts() {
-        promise = "22 count, 26 asked";
+        about("22 count, 26 asked");
         CubeSnakes x = with(3, 2);
         due("count(false, 0)", x.count(false, 0), 1);
         due("asked()", x.asked(), 1);
@@ -623,7 +570,7 @@ public final class PromiseTest {
     }
 
     private static void classesOfRopes() {
-        promise = "23 classes, 24 classOf";
+        about("23 classes, 24 classOf");
         CubeSnakes x = with(4, 2);
         due("classOf(0, 0) before", x.classOf(0, 0), -9);
         due("many(2)", x.many(2), 0);
@@ -700,7 +647,7 @@ public final class PromiseTest {
     }
 
     private static void told() {
-        promise = "27 many";
+        about("27 many");
         CubeSnakes x = with(5, 3, "", "", "-", "01");
         x.bar(31, true);
         x.bar(1, true);
@@ -711,7 +658,7 @@ public final class PromiseTest {
         due("many(4)", x.many(4), -1);
         due("many(-1)", x.many(-1), -1);
 
-        promise = "28 finding, 29 findings";
+        about("28 finding, 29 findings");
         x = with(3, 2, "0");
         due("finding()", x.finding(), 0);
         for (int f = 1; f <= 4; f++) {
@@ -737,7 +684,7 @@ public final class PromiseTest {
         due("findings(5)", x.findings(5), -1);
         due("findings(-1)", x.findings(-1), -1);
 
-        promise = "30 digest";
+        about("30 digest");
         due("digest()", with(3, 2).digest(), digestOf(3, 2, 0));
         due("digest()", with(6, 1, "", "-", "543210").digest(), digestOf(6, 1, 0, "", "-", "543210"));
         x = with(6, 3, "1", "0", "-", "-", "-", "-", "-", "-", "-", "-", "-", "55");
@@ -755,7 +702,7 @@ public final class PromiseTest {
     }
 
     private static void orderOfRefusals() {
-        promise = "answers: the order of refusals";
+        about("answers: the order of refusals");
         CubeSnakes x = with(3, 2, "0");
         long before = x.digest();
         due("alike(12, 5)", x.alike(12, 5), -1);
@@ -773,7 +720,7 @@ public final class PromiseTest {
 
     /** With spread 3 rows that come home may come near their first corners: each such row is a try. */
     private static void openRows() {
-        promise = "2 seeking: open rows";
+        about("2 seeking: open rows");
         CubeSnakes x = with(2, 3);
         // 0, 01, 010 are open (corner 2 is near to corner 0, but comes home); 0101 is no ring of 6.
         due("longest(0, true, 20000)", x.longest(0, true, 20000), 0);
@@ -793,7 +740,7 @@ public final class PromiseTest {
 
     /** Each call with numbers at the ends of what numbers there are. */
     private static void nothingThrows() {
-        promise = "no call throws";
+        about("no call throws");
         int[] ends = {Integer.MIN_VALUE, Integer.MIN_VALUE + 1, -2, -1, 0, 1, 11, 12, 63, 64, 65, 1 << 30, Integer.MAX_VALUE};
         for (int a : ends) {
             CubeSnakes x = with(6, 1, "01", "01020103010201040102010301020105");
