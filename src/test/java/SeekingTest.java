@@ -245,8 +245,18 @@ public final class SeekingTest extends Checks {
         due(x, "tries()", 2);
         due(x, "count(false, 3)", 1);
         due(x, "tries()", 3);
+        about("25: a SEEKING without a TRY is the latest, too");
         due(x, "count(true, 0)", 1);
         due(x, "tries()", 0);
+        due(x, "longest(1, false, 3)", SPENT);
+        due(x, "tries()", 3);
+        due(x, "classes(false, 0)", 1);
+        due(x, "tries()", 0);
+        due(x, "count(false, 3)", 1);
+        bar(x, 1, 2, 4);
+        due(x, "longest(1, false, 3)", 0);
+        due(x, "tries()", 0);
+        x.cube(3);
         about("25: that was not BAD, STATE");
         due(x, "count(false, 3)", 1);
         x.bar(0, true);
